@@ -227,8 +227,7 @@ public final class SwarmLine {
     }
 
     public int left(int aCase, boolean least) throws IndexOutOfBoundsException {
-        Case told = caseNumbered(aCase);
-        return told.since == NONE ? NONE : sky.hourGone(told.since, today(), least);
+        return hourGone(caseNumbered(aCase), least);
     }
 
     public int most() {
@@ -427,14 +426,19 @@ public final class SwarmLine {
         return asked.ladder < opened.high ? LADDER_TOO_SHORT : NOTHING_AGAINST;
     }
 
-    /** The keepers who could go to an open case, as a set of bits (5). */
+    /** NONE without a since. */
+    private int hourGone(Case told, boolean soonest) {
+        return told.since == NONE ? NONE : sky.hourGone(told.since, today(), soonest);
+    }
+
+    /** As a set of bits, so that the keepers of several cases can be joined at once. */
     private int keepersWhoCouldGo(Case opened) {
-        int gone = opened.since == NONE ? Integer.MAX_VALUE : sky.hourGone(opened.since, today(), true);
+        int gone = hourGone(opened, true);
         int set = 0;
         for (int i = 0; i < keepers.size(); i++) {
             Keeper free = keepers.get(i);
             if (whatIsAgainst(free, opened) == NOTHING_AGAINST
-                    && now + free.hoursTo(opened.x, opened.y) < gone) {
+                    && (gone == NONE || now + free.hoursTo(opened.x, opened.y) < gone)) {
                 set |= 1 << i;
             }
         }
@@ -514,7 +518,6 @@ public final class SwarmLine {
         return Math.max(Math.abs(x - otherX), Math.abs(y - otherY));
     }
 
-    /** What is known and foretold of each day. */
     private static final class Sky {
         private static final int LAST_DAY = 30;
         private static final int COLDEST = -20;
@@ -550,7 +553,7 @@ public final class SwarmLine {
             return warmth >= WARM ? 2 : 1;
         }
 
-        /** The hour at which a swarm that left at an hour would be gone (5). */
+        /** Term 5; patience is lost by 1 an hour at least, so the loop ends. */
         int hourGone(int since, int today, boolean soonest) {
             int patience = FIRST_PATIENCE;
             int hour = since;
@@ -639,7 +642,7 @@ public final class SwarmLine {
         private int aCase = NONE;
         private int ended = NONE;
 
-        /** Half of a hive's bees, which the hive must still hold whole: they tell where the swarm hangs (2c). */
+        /** The hive must still hold all of its bees: by them it is told where the swarm hangs (2c). */
         Swarm(int hive, Hive home, int now) {
             int day = now / HOURS_OF_A_DAY;
             this.hive = hive;
@@ -744,7 +747,6 @@ public final class SwarmLine {
 
         void comeHome() {
             state = AT_HOME;
-            hoursToGo = 0;
             aCase = NONE;
         }
 
@@ -819,7 +821,7 @@ public final class SwarmLine {
         }
     }
 
-    /** Whom the latest sending asked, and what was against each. */
+    /** Kept apart from the turns, which may be told anew behind a sending. */
     private static final class Asked {
         private final int[] numbers = new int[MOST_KEEPERS];
         private final int[] against = new int[MOST_KEEPERS];
@@ -891,9 +893,7 @@ public final class SwarmLine {
         }
 
         void rewind() {
-            begin = 0;
             behind = 0;
-            kind = END;
         }
 
         void advance() {
@@ -969,16 +969,16 @@ public final class SwarmLine {
         }
     }
 
-    /** What one call tells (3). */
+    /** One object serves all calls: a text is melted into its case before the next one is read. */
     private static final class Facts {
         private static final int MOST_FACTS = 5;
 
-        private int x = NONE;
-        private int y = NONE;
-        private int high = 0;
-        private int since = NONE;
-        private int mark = 0;
-        private boolean maybe = false;
+        private int x;
+        private int y;
+        private int high;
+        private int since;
+        private int mark;
+        private boolean maybe;
 
         /** False if the text is wrong; the tape stands at what is wrong then. */
         boolean readFrom(Tape tape, int now) {

@@ -48,7 +48,7 @@ public final class CallTest {
         Object[][] wrong = {
             {",at 1 2", 0}, {"at 1 2,,", 7}, {"at 1,2", 4}, {"at ,1 2", 3}, {"at 1 2 3", 7}, {"at 20 1", 3},
             {"at 1 20", 5}, {"at 0001 2", 3}, {"at 1 0002", 5}, {"at 1 2;", 6}, {"at 1 2 maybe", 7},
-            {"at 1 2maybe", 6}, {"at x 2", 3}, {"atx 1 2", 0}, {"a 1 2", 0}, {"AT 1 2", 0}, {"aT 1 2", 0},
+            {"at 1 2maybe", 6}, {"at x 2", 3}, {"atx 1 2", 0}, {"ata 1 2", 0}, {"atz 1 2", 0}, {"a 1 2", 0}, {"AT 1 2", 0}, {"aT 1 2", 0},
             {"at 1 2,At", 7}, {"at 1 2,at 1 2", 7}, {"maybe,maybe,at 1 2", 6}, {"high 1,high 1,at 1 2", 7},
             {"since 1,since 1,at 1 2", 8}, {"mark 1,mark 1,at 1 2", 7}, {"high 0,at 1 2", 5}, {"high 10", 5},
             {"mark 0", 5}, {"mark 8", 5}, {"since 10", 6}, {"since 0009", 6}, {"maybe 1", 6}, {"maybes", 0},
@@ -178,15 +178,15 @@ public final class CallTest {
         Check.call(line, "at 4 4,maybe");
         check.due("x of the first, all maybe", 3, line.matter(0, 1));
         check.due("y of the first, all maybe", 3, line.matter(0, 2));
-        Check.call(line, "at 4 3");
+        Check.call(line, "at 4 2");
         check.due("x of the first without maybe", 4, line.matter(0, 1));
-        check.due("y of the first without maybe", 3, line.matter(0, 2));
-        Check.call(line, "at 5 4");
-        Check.call(line, "at 5 4,maybe");
+        check.due("y of the first without maybe", 2, line.matter(0, 2));
+        Check.call(line, "at 5 3");
+        Check.call(line, "at 5 3,maybe");
         check.due("x stays", 4, line.matter(0, 1));
-        check.due("y stays", 3, line.matter(0, 2));
+        check.due("y stays", 2, line.matter(0, 2));
         check.due("CALLS", 5, line.matter(0, 6));
-        check.due("near the PLACE as it is now", 0, Check.call(line, "at 5 2"));
+        check.due("near the PLACE as it is now", 0, Check.call(line, "at 5 1"));
         check.due("no more near", 1, Check.call(line, "at 2 2"));
     }
 

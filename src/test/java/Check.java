@@ -25,13 +25,16 @@ final class Check {
         }
     }
 
-    /** Exactly this class is due: a class below it would be one that the machine threw. */
+    /** Exactly this class is due, and by a throw of the program's own. */
     void dueThrow(String what, Class<? extends RuntimeException> want, Runnable run) {
         Class<?> got = null;
         try {
             run.run();
         } catch (RuntimeException e) {
             got = e.getClass();
+            if (!isThrownByProgram(e)) {
+                tell(what + " let the machine throw " + e);
+            }
         }
         if (got != want) {
             tell(what + " threw " + (got == null ? "nothing" : got.getName()) + ", due is " + want.getName());
@@ -45,6 +48,15 @@ final class Check {
         if (!stateOf(line).equals(ahead)) {
             tell(what + " threw and changed the state");
         }
+    }
+
+    /** What a list or an array throws for a wrong index has the library's or no frame on top. */
+    static boolean isThrownByProgram(RuntimeException e) {
+        StackTraceElement[] frames = e.getStackTrace();
+        boolean isOfMachine = e instanceof ArrayIndexOutOfBoundsException || e instanceof NullPointerException
+                || e instanceof ArithmeticException || e instanceof ClassCastException
+                || e instanceof NegativeArraySizeException || e instanceof ArrayStoreException;
+        return !isOfMachine && frames.length > 0 && frames[0].getClassName().startsWith("SwarmLine");
     }
 
     void dueState(String what, String want, String got) {

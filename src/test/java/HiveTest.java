@@ -9,6 +9,7 @@ public final class HiveTest {
         warmDays(check);
         swarms(check);
         ripeness(check);
+        placesByBees(check);
         placesAreHeldWithin(check);
         patience(check);
         sixtySwarmsAtMost(check);
@@ -127,6 +128,21 @@ public final class HiveTest {
         check.due("WARM of the other", 3, line.look(1, 3));
     }
 
+    private static void placesByBees(Check check) {
+        // x by 1000, y by 100, HEIGHT by 10, all at day 2
+        int[][] due = {{5994, 7, 12, 6}, {5999, 7, 12, 6}, {6000, 8, 13, 7}, {6099, 8, 13, 7}, {6100, 8, 7, 8},
+            {1001, 10, 12, 2}, {100000, 11, 8, 2}};
+        for (int[] d : due) {
+            SwarmLine line = new SwarmLine();
+            warm(line, 3, 18);
+            line.hive(10, 10, d[0], 1000, 0);
+            line.hours(60);
+            check.due("x by " + d[0], d[1], line.swarm(0, 3));
+            check.due("y by " + d[0], d[2], line.swarm(0, 4));
+            check.due("HEIGHT by " + d[0], d[3], line.swarm(0, 5));
+        }
+    }
+
     private static void placesAreHeldWithin(Check check) {
         SwarmLine line = new SwarmLine();
         warm(line, 3, 18);
@@ -155,6 +171,19 @@ public final class HiveTest {
             line.hours(1);
             check.due("PATIENCE at 72 by " + d[0], 38 - d[1], line.swarm(0, 7));
         }
+        lastHoursOfPatience(check);
+    }
+
+    private static void lastHoursOfPatience(Check check) {
+        SwarmLine slow = new SwarmLine();
+        warm(slow, 3, 18);
+        slow.hive(10, 10, 20000, 1000, 0);
+        Check.hours(slow, 108);
+        check.due("PATIENCE 1", 1, slow.swarm(0, 7));
+        check.due("HANGS with 1", 0, slow.swarm(0, 0));
+        slow.hours(1);
+        check.due("GONE with 0", 2, slow.swarm(0, 0));
+        check.due("PATIENCE 0", 0, slow.swarm(0, 7));
         SwarmLine line = new SwarmLine();
         warm(line, 3, 18);
         line.weather(3, 25, 0);

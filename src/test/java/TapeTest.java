@@ -6,6 +6,7 @@ public final class TapeTest {
         endCuts(check);
         bytesComeHighestFirst(check);
         allBytesAreKept(check);
+        textsEndWithTheTape(check);
         textsUseTheTapeUp(check);
         check.finish();
     }
@@ -56,6 +57,33 @@ public final class TapeTest {
         line.feed(0x20202020, 0x20202020, 0x20202020, 0x20202020, 0x20202041);
         check.dueThrow("399 blanks and an A", IllegalArgumentException.class, line::call);
         check.due("fault()", 399, line.fault());
+    }
+
+    /** What stood behind the cut, or behind the last byte of all, belongs to no word, number or blanks. */
+    private static void textsEndWithTheTape(Check check) {
+        SwarmLine line = new SwarmLine();
+        // "at 1 23, maybes here"
+        line.feed(0x61742031, 0x2032332c, 0x206d6179, 0x62657320, 0x68657265);
+        line.end(6);
+        check.due("a NUMBER cut short", 0, line.call());
+        check.due("y", 2, line.matter(0, 2));
+        line.feed(0x61742031, 0x2032332c, 0x206d6179, 0x62657320, 0x68657265);
+        line.end(14);
+        check.dueThrow("a NUMBER that is not cut", IllegalArgumentException.class, line::call);
+        check.due("fault()", 5, line.fault());
+        // "at 1 2 , maybes here"
+        line.feed(0x61742031, 0x2032202c, 0x206d6179, 0x62657320, 0x68657265);
+        line.end(14);
+        check.due("a word cut short", 0, line.call());
+        line.feed(0x61742031, 0x2032202c, 0x206d6179, 0x62657320, 0x68657265);
+        line.end(8);
+        check.dueThrow("a blank cut off", IllegalArgumentException.class, line::call);
+        check.due("fault()", 8, line.fault());
+        String[] lasts = {"at 9 9", "at 9 9,maybe", "at 9 9   "};
+        for (String last : lasts) {
+            Check.tape(line, " ".repeat(400 - last.length()) + last);
+            check.due("400 bytes", 1, line.call());
+        }
     }
 
     private static void textsUseTheTapeUp(Check check) {
