@@ -37,13 +37,10 @@ public final class CallTest {
     }
 
     private static void wrongTexts(Check check) {
-        SwarmLine line = new SwarmLine();
-        line.hours(9);
-        Check.call(line, "at 5 5,high 2");
         String[] texts = {"", "   ", "at", "at ", "at 1", "at 1 ", "at 1 2,", "at 1 2, ", "high 3", "high 3  ", "maybe",
             "high 1,since 0,mark 1,maybe", "high", "at 1 2,since", "at 1 2,mark  "};
         for (String text : texts) {
-            check.wrongText(text, text.length(), line, line::call);
+            wrongText(check, text, text.length());
         }
         Object[][] wrong = {
             {",at 1 2", 0}, {"at 1 2,,", 7}, {"at 1,2", 4}, {"at ,1 2", 3}, {"at 1 2 3", 7}, {"at 20 1", 3},
@@ -60,8 +57,16 @@ public final class CallTest {
             {"at 1 2,high 1,since 0,mark 1,maybe;", 34}, {"else:0", 0}, {"in 1:0", 0}, {"at{1 2", 2}, {"at`1 2", 2},
             {"at 1/2", 4}, {"at 1:2", 4}, {"at 12345678901234567890 1", 3}, {"at 4294967297 1", 3}};
         for (Object[] w : wrong) {
-            check.wrongText((String) w[0], (Integer) w[1], line, line::call);
+            wrongText(check, (String) w[0], (Integer) w[1]);
         }
+    }
+
+    /** At hour 9, behind a call that is right. */
+    private static void wrongText(Check check, String text, int where) {
+        SwarmLine line = new SwarmLine();
+        line.hours(9);
+        Check.call(line, "at 5 5,high 2");
+        check.wrongText(text, where, line, line::call);
         check.due("CALLS", 1, line.count(5));
     }
 
@@ -203,7 +208,7 @@ public final class CallTest {
         check.dueThrow("a wrong text", IllegalArgumentException.class, line::call);
         check.due("fault() of it", 5, line.fault());
         Check.tape(line, placeOf(60));
-        check.dueThrowAlone("a 61st", UnsupportedOperationException.class, line, line::call);
+        check.dueThrow("a 61st", UnsupportedOperationException.class, line::call);
         check.due("its text is right", -1, line.fault());
         check.due("the tape is used up", false, line.end(1));
         check.due("another CALL of the last one", 59, Check.call(line, placeOf(59)));
@@ -219,7 +224,7 @@ public final class CallTest {
         }
         check.due("CALLS", 200, line.count(5));
         Check.tape(line, "at 3 3");
-        check.dueThrowAlone("a 201st", UnsupportedOperationException.class, line, line::call);
+        check.dueThrow("a 201st", UnsupportedOperationException.class, line::call);
         check.due("the tape is used up", false, line.end(1));
         Check.tape(line, "at 3");
         check.dueThrow("a wrong 201st", IllegalArgumentException.class, line::call);

@@ -70,6 +70,10 @@ final class Check {
         System.out.println(name + ": " + what);
     }
 
+    boolean isRight() {
+        return wrong == 0;
+    }
+
     void finish() {
         System.out.println(wrong == 0 ? "all answers are as due" : wrong + " answers are not as due");
         if (wrong != 0) {

@@ -24,14 +24,15 @@ public final class HiveTest {
     }
 
     private static void bounds(Check check) {
-        SwarmLine line = new SwarmLine();
         int[][] wrong = {{-1, 0, 0, 1000, 0}, {20, 0, 0, 1000, 0}, {0, -1, 0, 1000, 0}, {0, 20, 0, 1000, 0},
             {0, 0, -1, 1000, 0}, {0, 0, 100001, 1000, 0}, {0, 0, 0, 999, 0}, {0, 0, 0, 100001, 0},
             {0, 0, 0, 1000, -1}, {0, 0, 0, 1000, 8}, {Integer.MIN_VALUE, 0, 0, 1000, 0}};
         for (int[] n : wrong) {
+            SwarmLine line = new SwarmLine();
             check.dueThrowAlone("hive " + java.util.Arrays.toString(n), IllegalArgumentException.class, line,
                     () -> line.hive(n[0], n[1], n[2], n[3], n[4]));
         }
+        SwarmLine line = new SwarmLine();
         check.due("least", 0, line.hive(0, 0, 0, 1000, 0));
         check.due("greatest", 1, line.hive(19, 19, 100000, 100000, 7));
     }

@@ -12,15 +12,16 @@ public final class KeeperTest {
     }
 
     private static void bounds(Check check) {
-        SwarmLine line = new SwarmLine();
         int[][] wrong = {{-1, 0, 0, 0, 1, 0, 0}, {20, 0, 0, 0, 1, 0, 0}, {0, -1, 0, 0, 1, 0, 0},
             {0, 20, 0, 0, 1, 0, 0}, {0, 0, -1, 0, 1, 0, 0}, {0, 0, 21, 0, 1, 0, 0}, {0, 0, 0, -1, 1, 0, 0},
             {0, 0, 0, 10, 1, 0, 0}, {0, 0, 0, 0, 0, 0, 0}, {0, 0, 0, 0, 11, 0, 0}, {0, 0, 0, 0, 1, -1, 0},
             {0, 0, 0, 0, 1, 24, 0}, {0, 0, 0, 0, 1, 0, -1}, {0, 0, 0, 0, 1, 0, 24}};
         for (int[] n : wrong) {
+            SwarmLine line = new SwarmLine();
             check.dueThrowAlone("keeper " + java.util.Arrays.toString(n), IllegalArgumentException.class, line,
                     () -> line.keeper(n[0], n[1], n[2], n[3], n[4], n[5], n[6]));
         }
+        SwarmLine line = new SwarmLine();
         check.due("least", 0, line.keeper(0, 0, 0, 0, 1, 0, 0));
         check.due("greatest", 1, line.keeper(19, 19, 20, 9, 10, 23, 23));
     }

@@ -52,13 +52,10 @@ public final class RotaTest {
     }
 
     private static void wrongTexts(Check check) {
-        SwarmLine line = lineWithKeepers(12);
-        Check.call(line, "at 0 0");
-        Check.rota(line, "in 0:3;else:4");
         String[] shortOnes = {"", "  ", "in", "in 3", "in 3 ", "in 3:", "in 3: ", "else", "else:", "else: ", "in 3:1;",
             "in 3:1; ", "in 3:1;else"};
         for (String text : shortOnes) {
-            check.wrongText(text, text.length(), line, line::rota);
+            wrongText(check, text, text.length());
         }
         Object[][] wrong = {
             {"in 16:0", 3}, {"in 0016:0", 3}, {"in 0003:0", 3}, {"in 3:12", 5}, {"in 3:0001", 5}, {"in 3:1 12", 7},
@@ -71,22 +68,29 @@ public final class RotaTest {
             {"in 3:0 1 2 3 4 5 6 7 8 9 10 11 0", 31}, {"in 3:0 1 2 3 4 5 6 7 8 9 10 11 12", 31},
             {"in 3:0 1 2 3 4 5 6 7 8 9 10 11 x", 31}, {"in 99999999999:1", 3}, {"in 3:4294967296", 5}};
         for (Object[] w : wrong) {
-            check.wrongText((String) w[0], (Integer) w[1], line, line::rota);
+            wrongText(check, (String) w[0], (Integer) w[1]);
         }
+    }
+
+    private static void wrongText(Check check, String text, int where) {
+        SwarmLine line = lineWithKeepers(12);
+        Check.call(line, "at 0 0");
+        Check.rota(line, "in 0:3;else:4");
+        check.wrongText(text, where, line, line::rota);
         check.dueState("the TURNS that stay", "3 ", askedBy(line, 0));
     }
 
     private static void tenLinesAtMost(Check check) {
         SwarmLine line = lineWithKeepers(1);
         check.due("ten", 10, Check.rota(line, TEN));
-        check.wrongText(TEN + ";in 9:0", TEN.length() + 1, line, line::rota);
-        check.wrongText(TEN + " ;  in 9:0", TEN.length() + 4, line, line::rota);
-        check.wrongText(TEN + ";in 0:0", TEN.length() + 1, line, line::rota);
-        check.wrongText(TEN + ";else:0", TEN.length() + 1, line, line::rota);
-        check.wrongText(TEN + ";x", TEN.length() + 1, line, line::rota);
-        check.wrongText(TEN + "; ", TEN.length() + 2, line, line::rota);
-        check.wrongText(TEN + ",", TEN.length(), line, line::rota);
         check.due("LINES", 10, line.count(6));
+        wrongText(check, TEN + ";in 9:0", TEN.length() + 1);
+        wrongText(check, TEN + " ;  in 9:0", TEN.length() + 4);
+        wrongText(check, TEN + ";in 0:0", TEN.length() + 1);
+        wrongText(check, TEN + ";else:0", TEN.length() + 1);
+        wrongText(check, TEN + ";x", TEN.length() + 1);
+        wrongText(check, TEN + "; ", TEN.length() + 2);
+        wrongText(check, TEN + ",", TEN.length());
     }
 
     private static void keepersThatThereAre(Check check) {

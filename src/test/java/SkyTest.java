@@ -51,15 +51,17 @@ public final class SkyTest {
     }
 
     private static void foretellBounds(Check check) {
+        int[][] wrong = {{-21, 0}, {0, 41}, {41, 41}, {-21, -21}, {1, 0}, {40, -20}};
+        for (int[] n : wrong) {
+            SwarmLine told = new SwarmLine();
+            Check.call(told, "at 0 0,since 0");
+            check.dueThrowAlone("foretell " + n[0] + " " + n[1], IllegalArgumentException.class, told,
+                    () -> told.foretell(1, n[0], n[1]));
+        }
         SwarmLine line = new SwarmLine();
         Check.call(line, "at 0 0,since 0");
         check.dueThrow("day -1", IndexOutOfBoundsException.class, () -> line.foretell(-1, 99, 0));
         check.dueThrow("day 31", IndexOutOfBoundsException.class, () -> line.foretell(31, 99, 0));
-        int[][] wrong = {{-21, 0}, {0, 41}, {41, 41}, {-21, -21}, {1, 0}, {40, -20}};
-        for (int[] n : wrong) {
-            check.dueThrowAlone("foretell " + n[0] + " " + n[1], IllegalArgumentException.class, line,
-                    () -> line.foretell(1, n[0], n[1]));
-        }
         line.foretell(0, -20, -20);
         line.foretell(30, 40, 40);
         line.foretell(1, 20, 20);

@@ -1,12 +1,14 @@
 import java.util.Random;
 import java.util.Set;
 
-/** Runs of 512 calls with wild arguments: nothing but what the document names is ever thrown. */
+/** Runs of some 512 calls with wild arguments: nothing but what the document names is ever thrown. */
 public final class WildTest {
     private static final String[] WORDS = {"at ", "at 3 4", "at 4 4", "high ", "since ", "mark ", "maybe", ",", ",", " ",
         "in ", "else", ":", ";", "0", "1", "5", "12", "19", "743", "x", "0001"};
     private static final int[] EDGES = {-1, 0, 1, 2, 3, 7, 9, 10, 11, 12, 18, 19, 20, 23, 24, 25, 30, 31, 40, 60, 100,
         1000, 100000, Integer.MIN_VALUE, Integer.MAX_VALUE};
+    private static final int MOST_CALLS = 512;
+    private static final int COSTLIEST_TEXT = 30;
     private static final Class<?> INDEX = IndexOutOfBoundsException.class;
     private static final Class<?> ARGUMENT = IllegalArgumentException.class;
     private static final Class<?> STATE = IllegalStateException.class;
@@ -16,12 +18,14 @@ public final class WildTest {
     private final Check check = new Check("WildTest");
     private final Random random = new Random(5);
     private SwarmLine line;
+    private int made;
 
     public static void main(String[] args) {
         WildTest test = new WildTest();
         for (int run = 0; run < 600; run++) {
             test.line = new SwarmLine();
-            for (int call = 0; call < 512; call++) {
+            test.made = 0;
+            while (test.made < MOST_CALLS - COSTLIEST_TEXT) {
                 test.oneCall();
             }
         }
@@ -51,8 +55,16 @@ public final class WildTest {
         return text.toString();
     }
 
+    /** A feed for each twenty bytes, and an end. */
+    private void putText() {
+        String text = text();
+        made += (text.length() + 19) / 20 + 1;
+        Check.tape(line, text);
+    }
+
     private void oneCall() {
         int kind = random.nextInt(21);
+        made++;
         Set<Class<?>> may = mayThrow(kind);
         try {
             make(kind);
@@ -84,8 +96,8 @@ public final class WildTest {
             case 3: return line.keeper(any(20), any(20), any(21), any(10), any(11), any(24), any(24));
             case 4: return line.boxes(any(5), any(21));
             case 5: return line.hours(any(30));
-            case 6: Check.tape(line, text()); return line.call();
-            case 7: Check.tape(line, text()); return line.rota();
+            case 6: putText(); return line.call();
+            case 7: putText(); return line.rota();
             case 8: return line.send(any(8));
             case 9: return line.origin(any(8));
             case 10: return line.left(any(8), random.nextBoolean());
