@@ -45,7 +45,8 @@ public final class CallTest {
         Object[][] wrong = {
             {",at 1 2", 0}, {"at 1 2,,", 7}, {"at 1,2", 4}, {"at ,1 2", 3}, {"at 1 2 3", 7}, {"at 20 1", 3},
             {"at 1 20", 5}, {"at 0001 2", 3}, {"at 1 0002", 5}, {"at 1 2;", 6}, {"at 1 2 maybe", 7},
-            {"at 1 2maybe", 6}, {"at x 2", 3}, {"atx 1 2", 0}, {"ata 1 2", 0}, {"atz 1 2", 0}, {"a 1 2", 0}, {"AT 1 2", 0}, {"aT 1 2", 0},
+            {"at 1 2maybe", 6}, {"at x 2", 3}, {"atx 1 2", 0}, {"ata 1 2", 0}, {"atz 1 2", 0},
+            {"a 1 2", 0}, {"AT 1 2", 0}, {"aT 1 2", 0},
             {"at 1 2,At", 7}, {"at 1 2,at 1 2", 7}, {"maybe,maybe,at 1 2", 6}, {"high 1,high 1,at 1 2", 7},
             {"since 1,since 1,at 1 2", 8}, {"mark 1,mark 1,at 1 2", 7}, {"high 0,at 1 2", 5}, {"high 10", 5},
             {"mark 0", 5}, {"mark 8", 5}, {"since 10", 6}, {"since 0009", 6}, {"maybe 1", 6}, {"maybes", 0},

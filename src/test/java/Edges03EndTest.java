@@ -67,7 +67,8 @@ public final class Edges03EndTest {
             SwarmLine line = new SwarmLine();
             feedText(line);
             line.end(n);
-            check.due("feed behind end(" + n + ")", 40, line.feed(0x20202020, 0x20202020, 0x20202020, 0x20202020, 0x20202020));
+            int length = line.feed(0x20202020, 0x20202020, 0x20202020, 0x20202020, 0x20202020);
+            check.due("feed behind end(" + n + ")", 40, length);
             check.due("call() behind end(" + n + ")", 0, line.call());
             check.dueRow("matter behind end(" + n + ")", new int[] {0, 1, 2, 3, -1, 4}, what -> line.matter(0, what));
         }

@@ -7,7 +7,8 @@ public final class Edges10CaseTest {
         edges.of("UnsupportedOperationException: .. a CASE more is due and there are 60", Edges10CaseTest::sixtyCases);
         edges.of("(there are 60 CASES and none more is due)", Edges10CaseTest::noneMoreIsDue);
         edges.of("Of several exceptions the one told first is thrown", Edges10CaseTest::toldFirst);
-        edges.of("a call that throws changes nothing but the TAPE, where it is used up", Edges10CaseTest::fullChangesNothing);
+        edges.of("a call that throws changes nothing but the TAPE, where it is used up",
+                Edges10CaseTest::fullChangesNothing);
         edges.of("the first one that is OPEN or SENT", Edges10CaseTest::firstOne);
         edges.of("that is OPEN or SENT", Edges10CaseTest::openOrSent);
         edges.of("whose PLACE is at most 1 step from the CALL's", Edges10CaseTest::oneStep);

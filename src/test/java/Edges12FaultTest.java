@@ -101,7 +101,8 @@ public final class Edges12FaultTest {
     private static void numbersOutOfBounds(Check check) {
         dueCall(check, new Object[][] {{"at 0001 2", 3}, {"at  20 2", 4}, {"at 1   99", 7}, {"high 0", 5}, {"mark 8", 5},
             {"since 1", 6}});
-        dueRota(check, new Object[][] {{"in 0003:0", 3}, {"in  16:0", 4}, {"in 3:1", 5}, {"in 3:0 0", 7}, {"else:  0000", 7}});
+        dueRota(check, new Object[][] {{"in 0003:0", 3}, {"in  16:0", 4}, {"in 3:1", 5}, {"in 3:0 0", 7},
+            {"else:  0000", 7}});
     }
 
     private static void signs(Check check) {

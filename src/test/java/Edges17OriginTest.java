@@ -9,7 +9,8 @@ public final class Edges17OriginTest {
         edges.of("else NONE (several agree)", Edges17OriginTest::several);
         edges.of("else NONE (none agrees)", Edges17OriginTest::noneAgrees);
         edges.of("(a HIVE that never swarmed)", Edges17OriginTest::neverSwarmed);
-        edges.of("if it swarmed last at most 60 HOURS ahead of the HOUR at which that was HAD", Edges17OriginTest::sixtyHours);
+        edges.of("if it swarmed last at most 60 HOURS ahead of the HOUR at which that was HAD",
+                Edges17OriginTest::sixtyHours);
         edges.of("and not behind it", Edges17OriginTest::notBehind);
         edges.of("lies at most 3 steps from its PLACE", Edges17OriginTest::threeSteps);
         edges.of("if the CASE by which it was HAD has a MARK, has that one", Edges17OriginTest::mark);

@@ -10,7 +10,8 @@ public final class Edges20CrewTest {
         edges.of("what 0: 0 at HOME, 1 OUT to a CASE, 2 on the way back", c -> dueWay(c, 0, 0, 1, 1, 2, 2, 0));
         edges.of("1 BOXES", c -> dueWay(c, 1, 5, 5, 5, 4, 4, 4));
         edges.of("2 HOURS to go (0 at HOME)", c -> dueWay(c, 2, 0, 2, 1, 2, 1, 0));
-        edges.of("3 its CASE (NONE at HOME; on the way back that from which it comes)", c -> dueWay(c, 3, -1, 1, 1, 1, 1, -1));
+        edges.of("3 its CASE (NONE at HOME; on the way back that from which it comes)",
+                c -> dueWay(c, 3, -1, 1, 1, 1, 1, -1));
         edges.of("4 how many SWARMS it had", c -> dueWay(c, 4, 0, 0, 0, 1, 1, 1));
         edges.finish();
     }
