@@ -96,7 +96,8 @@ public final class Edges10CallTest {
     private static void numbersOfSince(Check check) {
         wrong(check, 0, new Object[][] {{"at 1 2,since 1", 13}, {"since 999", 6}, {"since -1", 6}});
         wrong(check, 50, new Object[][] {{"at 1 2,since 51", 13}, {"since 051,at 1 2", 6}});
-        wrong(check, 743, new Object[][] {{"at 1 2,since 744", 13}});
+        wrong(check, 743, new Object[][] {{"at 1 2,since 744", 13}, {"at 1 2,since a", 13}, {"at 1 2,since at", 13},
+            {"at 1 2,since ,", 13}, {"at 1 2,since /", 13}});
         right(check, 0, "at 1 2,since 0", 1, 2, 0, 0);
         right(check, 50, "at 1 2,since 50", 1, 2, 0, 50);
         right(check, 50, "at 1 2,since 0", 1, 2, 0, 0);

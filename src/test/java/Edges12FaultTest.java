@@ -84,6 +84,10 @@ public final class Edges12FaultTest {
 
     private static void words(Check check) {
         dueCall(check, new Object[][] {{"at maybe", 3}, {"at 1 maybe", 5}, {"at 1 2 maybe", 7}, {"high at", 5}});
+        SwarmLine late = new SwarmLine();
+        Check.hours(late, 743);
+        check.wrongText("since maybe", 6, late, late::call);
+        check.wrongText("at 1 2,since in", 13, late, late::call);
         dueRota(check, new Object[][] {{"in else", 3}, {"in 3 in", 5}, {"in 3:in", 5}, {"else:0 in", 7}});
     }
 
