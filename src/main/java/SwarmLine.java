@@ -324,22 +324,21 @@ public final class SwarmLine {
     /** Term 2; its order is told: swarms, keepers, hives. */
     private void passHour() {
         now++;
-        int loss = Sky.lossAt(sky.warmth[today()]);
+        int loss = Sky.lossAt(sky.warmthOf(today()));
         for (int i = 0; i < swarms.size(); i++) {
             swarms.get(i).losePatience(loss, now);
         }
         for (int i = 0; i < keepers.size(); i++) {
-            moveKeeper(i);
+            moveKeeper(i, keepers.get(i));
         }
         if (now % HOURS_OF_A_DAY == NOON) {
             for (int i = 0; i < hives.size(); i++) {
-                passNoon(i);
+                passNoon(i, hives.get(i));
             }
         }
     }
 
-    private void moveKeeper(int number) {
-        Keeper moved = keepers.get(number);
+    private void moveKeeper(int number, Keeper moved) {
         if (moved.state == AT_HOME) {
             return;
         }
@@ -362,7 +361,7 @@ public final class SwarmLine {
             reached.state = FALSE;
             return;
         }
-        Swarm found = swarms.get(nearest);
+        Swarm found = swarmNumbered(nearest);
         if (found.height > worker.ladder) {
             reached.state = OPEN;
             reached.high = Math.max(reached.high, found.height);
@@ -389,10 +388,9 @@ public final class SwarmLine {
         return nearest;
     }
 
-    private void passNoon(int number) {
-        Hive grown = hives.get(number);
+    private void passNoon(int number, Hive grown) {
         int day = today();
-        grown.grow(sky.bloom[day], sky.warmth[day]);
+        grown.grow(sky.bloomOf(day), sky.warmthOf(day));
         if (grown.isRipe() && swarms.size() < MOST_SWARMS) {
             swarms.add(new Swarm(number, grown, now));
             grown.loseHalf(now);
@@ -564,12 +562,24 @@ public final class SwarmLine {
             return hour;
         }
 
+        int warmthOf(int day) {
+            return warmth[held(day)];
+        }
+
+        int bloomOf(int day) {
+            return bloom[held(day)];
+        }
+
         private int reckonedWarmth(int day, int today, boolean soonest) {
-            int known = Math.min(day, LAST_DAY);
             if (day <= today) {
-                return warmth[known];
+                return warmthOf(day);
             }
-            return soonest ? greatest[known] : least[known];
+            return soonest ? greatest[held(day)] : least[held(day)];
+        }
+
+        /** What is reckoned may reach behind the last day: that one counts there (5). */
+        private static int held(int day) {
+            return Math.max(0, Math.min(day, LAST_DAY));
         }
     }
 
@@ -1097,7 +1107,7 @@ public final class SwarmLine {
 
         private boolean readLine(Tape tape, int keepersKnown) {
             int line = readDistrict(tape);
-            if (line == NONE) {
+            if (!isWithin(line, 0, OTHERS)) {
                 return false;
             }
             tape.advance();
@@ -1132,12 +1142,12 @@ public final class SwarmLine {
                 }
                 district = tape.value();
             }
-            return sizes[district] == 0 ? district : NONE;
+            return sizeOf(district) == 0 ? district : NONE;
         }
 
         private boolean holds(int line, int keeperNumber) {
-            for (int i = 0; i < sizes[line]; i++) {
-                if (rows[line][i] == keeperNumber) {
+            for (int i = 0; i < sizeOf(line); i++) {
+                if (keeperAt(line, i) == keeperNumber) {
                     return true;
                 }
             }
